@@ -13,6 +13,7 @@ public final class BoxesTest {
         groupThatLosesABox();
         readingAndRemoving();
         equalSums();
+        sumsTurnRound();
         check.end();
     }
 
@@ -205,5 +206,22 @@ public final class BoxesTest {
         check.due("delivered", 1, mail.status(0));
         check.due("as it came, byte 0", 11, mail.read(4, 0, 0, 0));
         check.due("as it came, byte 1", 52, mail.read(4, 0, 0, 1));
+    }
+
+    /** In 8 bytes byte 0 is turned by 35 bits, so its bit 0 falls on byte 7's bit 3; no bit is lost. */
+    private static void sumsTurnRound() {
+        VillageMail equal = new VillageMail();
+        Scenes.post(equal, 8, 4, 4, 0, 0);
+        equal.spoil(4, 0, 0, 0, 1);
+        equal.spoil(4, 0, 0, 7, 8);
+        equal.household(4, 0, 8);
+        check.due("equal", 1, equal.status(0));
+        for (int i = 0; i < 32; i++) {
+            VillageMail mail = new VillageMail();
+            Scenes.post(mail, 32, 4, 4, 0, 0);
+            mail.spoil(4, 0, i / 8, i % 8, 128);
+            mail.household(4, 0, 200);
+            check.due("byte " + i + " is seen", 2, mail.status(0));
+        }
     }
 }

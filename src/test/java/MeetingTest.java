@@ -10,6 +10,7 @@ public final class MeetingTest {
         equalArrivals();
         neverIsNoOffer();
         nextMinuteOfTheKiosk();
+        nextMinuteOfTheBus();
         orderOfPieces();
         refusals();
         refusalsStopAtN();
@@ -151,6 +152,20 @@ public final class MeetingTest {
         check.due("bus 9 can be waited for", 0, mail.meet(8, 0, 40));
         mail.minute(1);
         check.due("at its minute it is gone", 1, mail.meet(8, 0, 40));
+    }
+
+    private static void nextMinuteOfTheBus() {
+        int[] minutes = {100, 101};
+        for (int minute : minutes) {
+            VillageMail mail = new VillageMail();
+            mail.stop(8, 1, 101);
+            mail.stop(9, 0, 102);
+            mail.stop(9, 1, 150);
+            mail.publish();
+            Scenes.post(mail, 1, 0, 1, 0, 0);
+            mail.minute(minute);
+            check.due("bus 8 sees its stop of 101 at 100, not at 101", 101 - minute, mail.meet(8, 0, 40));
+        }
     }
 
     private static void orderOfPieces() {

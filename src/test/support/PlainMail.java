@@ -223,6 +223,10 @@ final class PlainMail {
         return note.number;
     }
 
+    int letters() {
+        return notes.size();
+    }
+
     private void lookAtAll(int kiosk) {
         for (Note note : notes) {
             if (note.goal == kiosk) {
