@@ -10,12 +10,20 @@ import java.util.TreeSet;
 /** Promise 1, a new object, and the public face with the room that its calls take. */
 public final class FaceTest {
     private static final Check check = new Check();
+    private static final String BAD_ARGUMENT = " IllegalArgumentException";
+    private static final String BAD_STATE = " IllegalStateException";
+    private static final String BAD_INDEX = " IndexOutOfBoundsException";
     private static final String[] FACE = {
-        "best(int,int,int):int", "box(int,int,int):int", "breakOff(int,int,int):int", "cancel(int,int):boolean",
-        "custodians(int):int", "group(int,int,int):boolean", "household(int,int,int):void", "key(int):boolean",
-        "meet(int,int,int):int", "minute(int):int", "post(int,int,int,int):int", "promise(int):int",
-        "publish():int", "read(int,int,int,int):int", "reboot(int):void", "remove(int,int,int):int",
-        "spoil(int,int,int,int,int):int", "status(int):int", "stop(int,int,int):int", "store(int,int):int"};
+        "stop(int,int,int):int" + BAD_ARGUMENT + BAD_STATE, "cancel(int,int):boolean", "publish():int" + BAD_STATE,
+        "household(int,int,int):void" + BAD_ARGUMENT, "group(int,int,int):boolean" + BAD_ARGUMENT, "key(int):boolean",
+        "post(int,int,int,int):int" + BAD_ARGUMENT + BAD_STATE, "minute(int):int" + BAD_ARGUMENT,
+        "meet(int,int,int):int" + BAD_ARGUMENT, "breakOff(int,int,int):int" + BAD_ARGUMENT,
+        "reboot(int):void" + BAD_ARGUMENT,
+        "spoil(int,int,int,int,int):int" + BAD_ARGUMENT + " NoSuchElementException",
+        "box(int,int,int):int" + BAD_ARGUMENT, "read(int,int,int,int):int" + BAD_ARGUMENT + BAD_INDEX,
+        "remove(int,int,int):int" + BAD_ARGUMENT + BAD_INDEX, "status(int):int" + BAD_ARGUMENT,
+        "custodians(int):int" + BAD_ARGUMENT, "promise(int):int" + BAD_ARGUMENT,
+        "best(int,int,int):int" + BAD_ARGUMENT, "store(int,int):int" + BAD_ARGUMENT};
 
     public static void main(String[] args) {
         newObject();
@@ -78,7 +86,11 @@ public final class FaceTest {
             for (Class<?> type : m.getParameterTypes()) {
                 types.append(types.length() == 0 ? "" : ",").append(type.getName());
             }
-            face.add(m.getName() + "(" + types + "):" + m.getReturnType().getName());
+            StringBuilder told = new StringBuilder(m.getName() + "(" + types + "):" + m.getReturnType().getName());
+            for (Class<?> thrown : m.getExceptionTypes()) {
+                told.append(' ').append(thrown.getSimpleName());
+            }
+            face.add(told.toString());
         }
         check.due("the face " + face, true, face.equals(new TreeSet<>(Arrays.asList(FACE))));
         names.retainAll(hidden);

@@ -6,8 +6,10 @@ import java.util.TreeMap;
 
 /** All promises: long runs of calls, seeded, on the program and on the plain model side by side. */
 public final class ModelTest {
-    private static final int RUNS = 500;
+    private static final int RUNS = 400;
     private static final int CALLS = 320;
+    private static final int LONG_RUNS = 60;
+    private static final int MOST_CALLS = 512;
     private static final long THROWN = -1000;
 
     private static final Random random = new Random(20261115);
@@ -44,11 +46,19 @@ public final class ModelTest {
     private final int buses = 1 + random.nextInt(4);
     private final int span = random.nextInt(3) == 0 ? 10080 : 300;
     private final int burst = random.nextBoolean() ? 24 : 8;
+    private final boolean looksAtAll;
     private int keysToType = 0;
+
+    private ModelTest(boolean looksAtAll) {
+        this.looksAtAll = looksAtAll;
+    }
 
     public static void main(String[] args) {
         for (int run = 0; run < RUNS; run++) {
-            new ModelTest().go(run);
+            new ModelTest(true).go(run);
+        }
+        for (int run = 0; run < LONG_RUNS; run++) {
+            new ModelTest(false).goToTheEnd(run);
         }
         tally.forEach((name, counts) -> System.out.print(name + " " + counts[0] + " (" + counts[1] + " thrown) "));
         System.out.println("\npieces moved " + moved + ", refusals " + refusals + "; letters under way " + ends[0]
@@ -56,18 +66,12 @@ public final class ModelTest {
     }
 
     private void go(int run) {
-        int stops = 12 + run % 13;
+        begin(run);
+        if (run % 3 == 0) {
+            postCrowd();
+        }
         for (int call = 0; call < CALLS; call++) {
-            if (call < stops) {
-                make(Kind.stop, arguments(Kind.stop));
-            } else if (call == stops) {
-                make(Kind.publish, new int[0]);
-                if (run % 3 == 0) {
-                    postCrowd();
-                }
-            } else {
-                makeAnyCall();
-            }
+            makeAnyCall();
         }
         for (int i = 0; i < 16 && answer(Kind.status, true, i) >= 0; i++) {
             ends[mail.status(i)]++;
@@ -75,6 +79,24 @@ public final class ModelTest {
         for (int i = 0; i < 12; i++) {
             refusals += mail.store(i, 3);
         }
+    }
+
+    /** As many calls as an object is good for, no question beside them: so also the last ones have to be right. */
+    private void goToTheEnd(int run) {
+        int made = begin(run);
+        while (made < MOST_CALLS) {
+            makeAnyCall();
+            made++;
+        }
+    }
+
+    private int begin(int run) {
+        int stops = 12 + run % 13;
+        for (int i = 0; i < stops; i++) {
+            make(Kind.stop, arguments(Kind.stop));
+        }
+        make(Kind.publish, new int[0]);
+        return stops + 1;
     }
 
     /** Long letters from two kiosks, so that stores get full. */
@@ -109,7 +131,7 @@ public final class ModelTest {
         counts[0]++;
         counts[1] += want <= THROWN ? 1 : 0;
         moved += (kind == Kind.meet || kind == Kind.breakOff) && want > 0 ? want : 0;
-        String differs = got != want ? "answer, due is " + want : difference();
+        String differs = got != want ? "answer, due is " + want : looksAtAll ? difference() : null;
         if (differs != null) {
             System.out.println(story + "differs: " + differs);
             System.exit(1);
