@@ -29,6 +29,7 @@ public final class EdgeMeetingsTest {
         breakOffTwice();
         rebootOfEachStore();
         rebootKeepsCopies();
+        rebootLeavesNewsOfNoHops();
         rebootKeepsCounts();
         rebootKeepsLettersOfItsOwn();
         spoilsOneBit();
@@ -420,6 +421,25 @@ public final class EdgeMeetingsTest {
         mail.reboot(1);
         mail.household(1, 0, 16);
         check.due("it waited there", 1, mail.box(1, 0, 0));
+    }
+
+    /** News of 0 hops, as at first, free no copy of a posted letter. */
+    private static void rebootLeavesNewsOfNoHops() {
+        VillageMail mail = Scenes.line();
+        Scenes.post(mail, 16, 0, 1, 0, 0);
+        mail.minute(100);
+        mail.reboot(8);
+        mail.reboot(9);
+        check.due("bus 9 brings no news", 0, mail.meet(9, 0, 40));
+        check.due("kiosk 0 has both pieces", 22, mail.store(0, 0));
+        check.due("bus 8 takes both", 2, mail.meet(8, 0, 40));
+        mail.reboot(0);
+        mail.reboot(1);
+        mail.minute(100);
+        mail.meet(9, 0, 0);
+        mail.meet(9, 1, 0);
+        check.due("kiosk 0 has forgotten: nothing is freed by its news", 1 << 8, mail.custodians(0));
+        check.due("nor by kiosk 1's", 2, mail.meet(8, 1, 40));
     }
 
     private static void rebootKeepsCounts() {
